@@ -767,7 +767,7 @@ public final class Remotepane {
         }
     }
 
-    /** The picture of a client, and the change that it gets next: found and made here. */
+    /** The picture of a client, and the change that it gets next, which is found and made here. */
     private static final class Change {
         static final char NONE = ' ';
         static final char COPY = 'c';
@@ -896,12 +896,12 @@ public final class Remotepane {
             for (int y = 0; y < height; y++) {
                 for (int x = 0; x < width; x++) {
                     int cell = first + y * COLUMNS + x;
-                    picture[cell] = colourBehind(cell);
+                    picture[cell] = colourAfter(cell);
                 }
             }
         }
 
-        int colourBehind(int cell) {
+        int colourAfter(int cell) {
             if (sort == COPY) {
                 return pictureBefore[cell + distance];
             }

@@ -21,6 +21,8 @@ public final class LineTests {
         promise17FillStartsAtFirstCell();
         promise17Copy();
         promise17CopyReadsAheadOfIt();
+        promise17CopyFromAllAround();
+        promise17CopyThatBreaksCells();
         promise17CopyLimits();
         promise17Ties();
         promise18NextCost();
@@ -267,6 +269,18 @@ public final class LineTests {
         x.draw(0, 0, 0, 7, 1, 1, 0);
         Check.same("17 the fill, then the cell that it broke", x.tick(1), 8);
         Check.same("17 mended", x.picture(0, 5, 5), 9);
+        fillCountsEachBrokenCellOnce();
+    }
+
+    /** Five right ones less one that comes wrong are 4/5, three without harm 3/5. */
+    private static void fillCountsEachBrokenCellOnce() {
+        Remotepane x = withRival();
+        paint(x, 4, 5, ".k.");
+        x.tick(20);
+        paint(x, 4, 4, "ooo", "oko");
+        Check.same("17 a fill", x.next(0), 'f');
+        oneChange(x);
+        Check.same("17 two high", pictureOf(x, 0, 5), "....ooo.....");
     }
 
     private static void promise17FillStartsAtFirstCell() {
@@ -354,6 +368,42 @@ public final class LineTests {
         Check.same("17 row 5, no more", pictureOf(x, 0, 5), "............");
     }
 
+    private static void promise17CopyFromAllAround() {
+        for (int rows = -2; rows <= 2; rows++) {
+            for (int columns = -2; columns <= 2; columns++) {
+                if (rows != 0 || columns != 0) {
+                    copyFrom(rows, columns);
+                }
+            }
+        }
+    }
+
+    private static void copyFrom(int rows, int columns) {
+        Remotepane x = withRival();
+        paint(x, 4 + columns, 3 + rows, "abcd", "efgh");
+        x.tick(20);
+        paint(x, 4, 3, "abcd", "efgh");
+        String from = "17 from " + rows + ", " + columns;
+        Check.same(from, x.next(0), 'c');
+        oneChange(x);
+        Check.same(from, pictureOf(x, 0, 3).substring(4, 8), "abcd");
+        Check.same(from, pictureOf(x, 0, 4).substring(4, 8), "efgh");
+        Check.same(from, x.behind(0), 0);
+    }
+
+    /** Seven right ones less one that comes wrong beat the four beside each other. */
+    private static void promise17CopyThatBreaksCells() {
+        Remotepane x = withRival();
+        paint(x, 2, 1, "abcd", "efgh");
+        paint(x, 2, 4, ".k..");
+        x.tick(20);
+        paint(x, 2, 3, "abcd", "ekgh");
+        Check.same("17 a copy that breaks a cell", x.next(0), 'c');
+        oneChange(x);
+        Check.same("17 the cell is behind now", pictureOf(x, 0, 4), "..efgh......");
+        Check.same("17 the cell is behind now", x.behind(0), 1);
+    }
+
     private static void promise17CopyLimits() {
         String[] block = {"abcdefgh", "ijklmnop", "qrstuvwx", "ABCDEFGH", "IJKLMNOP"};
         Remotepane x = withDesktop();
@@ -403,11 +453,12 @@ public final class LineTests {
         settle(x);
         paint(x, 11, 2, "a", "b", "c", "d");
         Check.same("17 not one wide: there is no room for two", x.next(0), 'r');
-        x.draw(0, 0, 11, 0, 1, 8, 0);
-        paint(x, 10, 2, "a", "b", "c", "d");
-        paint(x, 11, 2, "p", "q", "r", "s");
-        paint(x, 9, 2, ".", ".", ".", ".");
-        Check.same("17 two wide", x.next(0), 'c');
+        x.draw(0, 0, 0, 0, 12, 8, 0);
+        settle(x);
+        paint(x, 8, 2, "ab", "cd", "ef", "gh");
+        settle(x);
+        paint(x, 10, 2, "ab", "cd", "ef", "gh");
+        Check.same("17 two wide, beside the edge", x.next(0), 'c');
     }
 
     private static void promise17Ties() {

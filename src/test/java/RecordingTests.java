@@ -97,6 +97,11 @@ public final class RecordingTests {
         row(x, 0, 0);
         Check.same("28 it was the row 0", x.left(0), 3);
         row(x, 0, 5);
+        row(x, 3, 5);
+        x.tick(1);
+        row(x, 1, 0);
+        Check.same("28 the lowest that was left, though not the first", x.left(0), 3);
+        row(x, 1, 5);
         x.tick(1);
         Check.same("28 done", x.host(0), 1);
     }
@@ -196,7 +201,13 @@ public final class RecordingTests {
         Check.same("31 the third", x.played(0, 3, 0, 0), 0);
         Check.same("31 the last", x.played(0, 4, 0, 0), 0);
         Check.same("31 the last cell", x.played(0, 1, 11, 7), 0);
-        Check.fails("31 not so many", NONE, () -> x.played(0, 5, 0, 0));
+        x.openWindow(0, 11, 7, 1, 1);
+        x.draw(0, 1, 0, 0, 1, 1, 8);
+        x.tick(1);
+        Check.same("31 the fifth", x.played(0, 5, 11, 7), 8);
+        Check.same("31 back again", x.played(0, 4, 11, 7), 0);
+        x.closeWindow(0, 1);
+        Check.fails("31 not so many", NONE, () -> x.played(0, 6, 0, 0));
         Check.fails("31 less than 1", NONE, () -> x.played(0, 0, 0, 0));
         Check.fails("31 less than 1", NONE, () -> x.played(0, -1, 0, 0));
         Check.fails("31 far too many", NONE, () -> x.played(0, Integer.MAX_VALUE, 0, 0));
@@ -333,14 +344,18 @@ public final class RecordingTests {
         Object session = ((Object[]) field(x, "sessions")[0])[0];
         Object client = ((Object[]) field(x, "clients")[0])[0];
         int[] colours = (int[]) field(session, "colours")[0];
-        colours[95] = 1;
-        Check.same("34 a screen that is not of its windows", x.isConsistent(), false);
-        colours[95] = 0;
+        for (int cell : new int[] {0, 50, 95}) {
+            colours[cell] = 1;
+            Check.same("34 a screen that is not of its windows", x.isConsistent(), false);
+            colours[cell] = 0;
+        }
         Check.same("34 mended", x.isConsistent(), true);
         int[] look = (int[]) field(field(session, "recording")[0], "lastLook")[0];
-        look[95] = 1;
-        Check.same("34 a recording that plays another picture", x.isConsistent(), false);
-        look[95] = 0;
+        for (int cell : new int[] {0, 50, 95}) {
+            look[cell] = 1;
+            Check.same("34 a recording that plays another picture", x.isConsistent(), false);
+            look[cell] = 0;
+        }
         Field money = client.getClass().getDeclaredField("money");
         money.setAccessible(true);
         for (int amount : new int[] {-1, 61}) {

@@ -83,6 +83,8 @@ public final class WindowTests {
         x.closeWindow(0, 4);
         Check.same("3 a closed one keeps its number", x.openWindow(0, 0, 0, 1, 1), 5);
         Check.fails("3 had 6", STATE, () -> x.openWindow(0, 0, 0, 1, 1));
+        Check.same("3 the last one is there", x.show(0, 5, true), true);
+        Check.fails("3 there is none behind it", NO_SUCH, () -> x.show(0, 6, true));
         x.closeWindow(0, 0);
         Check.fails("3 had 6, closed ones too", STATE, () -> x.openWindow(0, 0, 0, 1, 1));
         Check.same("3 another session", x.openSession(), 1);
