@@ -488,6 +488,7 @@ public final class Remotepane {
     }
 
     private static final class Window {
+        // Never 0, so that they may divide: openWindow tests both before it makes a window.
         final int width;
         final int height;
         final int[] cells;

@@ -34,6 +34,7 @@ public final class RecordingEdgeTests {
         recordingOf60Ticks();
         notesOf60Ticks();
         recordingsOneAfterTheOther();
+        recordingOfTheSameScreenAnew();
         recordingsOfAllSessions();
         recordingWhileMoving();
         recordingBehindTheKeys();
@@ -418,6 +419,21 @@ public final class RecordingEdgeTests {
             Check.same("30 in place of the one before", x.record(0), ticks);
             Check.fails("31 which is gone", NONE, () -> x.played(0, 1, 11, 0));
             Check.same("32 with its notes", x.noted(0), 0);
+        }
+    }
+
+    private static void recordingOfTheSameScreenAnew() {
+        Remotepane x = Scene.desktop();
+        x.draw(0, 0, 0, 0, 12, 8, 9);
+        for (int again = 0; again < 3; again++) {
+            x.record(0);
+            Check.same("34 consistent without a tick", x.isConsistent(), true);
+            x.tick(1);
+            Check.same("32 all cells against 0, not against the one before", x.noted(0), 96);
+            for (int cell = 0; cell < 96; cell++) {
+                Check.same("31 cell " + cell, x.played(0, 1, cell % 12, cell / 12), 9);
+            }
+            Check.same("34 consistent", x.isConsistent(), true);
         }
     }
 

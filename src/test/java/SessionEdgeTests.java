@@ -21,6 +21,7 @@ public final class SessionEdgeTests {
         newWindowCoversWith0();
         topmostShownOfSix();
         hiddenOnesKeepTheirPlaces();
+        onlyOpenedOrRaisedComesOnTop();
         raisedOneByOne();
         raisedAlone();
         closedOrHiddenAtTheTop();
@@ -281,6 +282,28 @@ public final class SessionEdgeTests {
         x.moveWindow(0, 1, 5, 5);
         x.show(0, 1, true);
         Check.same("5 a hidden one is moved", x.screen(0, 5, 5), 51);
+    }
+
+    private static void onlyOpenedOrRaisedComesOnTop() {
+        Remotepane x = Scene.sessions(1);
+        Scene.window(x, 0, 0, 1, 1, 50);
+        Scene.window(x, 0, 0, 1, 1, 51);
+        x.moveWindow(0, 0, 5, 5);
+        Check.same("5 moved back, only the cell that it leaves is another one",
+                x.moveWindow(0, 0, 0, 0), 1);
+        Check.same("5 it is under the other one", x.screen(0, 0, 0), 51);
+        x.draw(0, 0, 0, 0, 1, 1, 52);
+        Check.same("9 drawn in, it is not on top", x.screen(0, 0, 0), 51);
+        x.mark(0, 0, true, true);
+        Check.same("8 nor marked", x.screen(0, 0, 0), 51);
+        x.show(0, 0, true);
+        Check.same("7 nor shown once more", x.screen(0, 0, 0), 51);
+        x.join(0, 9);
+        x.type(0, 'a');
+        x.tick(1);
+        Check.same("21 what is typed goes to the other one", x.screen(0, 0, 0), 101);
+        Check.same("6 it was not on top", x.raise(0, 0), true);
+        Check.same("6 now it is", x.screen(0, 0, 0), 52);
     }
 
     private static void raisedOneByOne() {
